@@ -149,6 +149,10 @@ public final class DaysTest {
     first.loose(1);
     due.equal("the first z", first.count(11), 1103527590);
     due.equal("AT behind 4310654 % 7", first.count(2), 4310654 % 7 + 1);
+    LoanedRound one = new LoanedRound();
+    one.home(0);
+    one.loose(1);
+    due.equal("a draw for one home, too", one.count(11), 1103527590);
     LoanedRound none = new LoanedRound();
     due.equal("loose without HOMES", none.loose(30), 0);
     due.equal("no draw", none.count(11), 1);

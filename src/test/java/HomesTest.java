@@ -96,6 +96,14 @@ public final class HomesTest {
     x.day(1);
     due.equal("POCOCK leaves on an odd DAY", x.homeIs(3, 6), 51);
     x.set(0, 99);
+    x.set(1, 98);
+    due.equal("FRIENDS: 99 times 99, by 100", x.homeIs(2, 5), 98);
+    x.set(0, 10);
+    x.set(1, 70);
+    due.equal("FELLOW leaves, a tenth of 70", x.homeIs(5, 6), 10 + 8 + 7 + 7);
+    x.set(1, 79);
+    due.equal("FELLOW leaves, a tenth of 79", x.homeIs(5, 6), 10 + 8 + 7 + 7);
+    x.set(0, 99);
     x.set(1, 99);
     due.equal("AUNT is held", x.homeIs(1, 5), 99);
     due.equal("FELLOW is held", x.homeIs(5, 5), 99);

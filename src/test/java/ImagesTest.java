@@ -41,8 +41,10 @@ public final class ImagesTest {
     x.set(0, 1);
     x.set(1, 2);
     x.set(2, 3);
-    Scenes.feed(x, "+7");
-    x.text(0);
+    due.equal("the end of a TEXT comes", Scenes.feed(x, "+s-s*3".replace('s', 'd')), 9);
+    x.text(1);
+    Scenes.feed(x, "s+7");
+    due.equal("another TEXT", x.text(0), 1);
     x.untell(1);
     Scenes.feed(x, "123");
     x.days(7);

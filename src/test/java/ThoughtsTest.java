@@ -134,6 +134,8 @@ public final class ThoughtsTest {
     due.refused("swapFor without HOMES", Due.NONE, LoanedRound::new, y -> y.swapFor(9, 0));
     due.refused("swapFor of one", Due.NONE, ThoughtsTest::ten, y -> y.swapFor(9, 0));
     swapOfAlike();
+    swapOfM();
+    swapOfPastAlone();
     swapOfPast();
   }
 
@@ -148,6 +150,36 @@ public final class ThoughtsTest {
     due.equal("the lesser of the greater", x.swapFor(1, 0), 2);
     x.goes(1);
     due.equal("the lesser first", x.swapFor(1, 0), 12);
+  }
+
+  /** m goes along: AUNTS leave less the less it is, wherever they stand. */
+  private static void swapOfM() {
+    LoanedRound x = new LoanedRound();
+    x.home(19);
+    x.home(10);
+    x.set(0, 50);
+    due.equal("as it is", x.then(2, 3), 60 + 84);
+    due.equal("swapFor(2, 0)", x.swapFor(2, 0), 1);
+    due.equal("swapFor(2, 1)", x.swapFor(2, 1), 60 + 35);
+  }
+
+  /** One that is gone PAST comes to the place that is next: it is not come to there. */
+  private static void swapOfPastAlone() {
+    LoanedRound x = new LoanedRound();
+    x.home(0);
+    x.home(1);
+    x.home(2);
+    x.past(2, 1);
+    x.hears(1, 9990);
+    x.hears(2, 9000);
+    x.set(0, 50);
+    due.equal("as it is", x.then(3, 3), 50 + 9999 + 9000 + 51);
+    due.equal("swapFor(3, 0)", x.swapFor(3, 0), 1);
+    due.equal("AT 0 with 9990, AT 1, AT 0", x.swapFor(3, 1), 9999 + 9000 + 51);
+    x.goes(2);
+    due.equal("from the one that is PAST", x.then(2, 3), 9000 + 50 + 9990 + 52);
+    due.equal("first 0 and 1, then as good 0 and 2", x.swapFor(2, 0), 1);
+    due.equal("either way", x.swapFor(2, 1), 9999 + 9000 + 50);
   }
 
   /** AT 0, then to 1; being gone PAST goes along, so that 2, with less to hear, comes next. */
@@ -187,6 +219,7 @@ public final class ThoughtsTest {
     due.refused("spare(0, 9)", Due.NONE, ThoughtsTest::ten, y -> y.spare(0, 9));
     due.refused("spare(40, 9)", Due.NONE, ThoughtsTest::ten, y -> y.spare(40, 9));
     due.refused("spare without HOMES", Due.NONE, ThoughtsTest::viewOnly, y -> y.spare(3, 9));
+    due.equal("VIEW 0", new LoanedRound().spare(3, 0), 0);
     due.equal("spare without HOMES", viewOnly().spare(3, 10), 0);
   }
 
@@ -203,6 +236,9 @@ public final class ThoughtsTest {
     fraction(x, 0, 60, 1, 2, 5);
     fraction(x, 0, 1, 1, 99, 100);
     fraction(x, 0, 99, 1, 1, 100);
+    fraction(x, 0, 86, 1, 7, 50);
+    fraction(x, 0, 98, 1, 1, 50);
+    fraction(x, 0, 95, 1, 1, 20);
     fraction(x, 0, 75, 1, 1, 4);
     fraction(x, 0, 100, 1, 0, 1);
     fraction(x, 0, 50, 1, 1, 2);
