@@ -28,10 +28,20 @@ public final class ImagesTest {
   }
 
   private static void restoreTakesAll() {
+    due.equal("restore()", changed().restore(), 5);
+    due.same("behind restore()", () -> Due.behind(ImagesTest::changed, LoanedRound::restore),
+        () -> Due.behind(ImagesTest::kept, LoanedRound::restore));
+  }
+
+  private static LoanedRound kept() {
     LoanedRound x = Scenes.busy();
-    LoanedRound twin = Scenes.busy();
     x.image();
-    twin.image();
+    return x;
+  }
+
+  /** All that an IMAGE keeps is another behind it. */
+  private static LoanedRound changed() {
+    LoanedRound x = kept();
     x.home(69);
     x.become(0, 55);
     x.past(1, 1);
@@ -41,10 +51,9 @@ public final class ImagesTest {
     x.set(0, 1);
     x.set(1, 2);
     x.set(2, 3);
-    due.equal("the end of a TEXT comes", Scenes.feed(x, "+s-s*3".replace('s', 'd')), 9);
+    due.equal("the end of a TEXT comes", Scenes.feed(x, "+d-d*3"), 9);
     x.text(1);
-    Scenes.feed(x, "s+7");
-    due.equal("another TEXT", x.text(0), 1);
+    due.equal("another TEXT", Scenes.read(x, 0, "s+7"), 1);
     x.untell(1);
     Scenes.feed(x, "123");
     x.days(7);
@@ -52,9 +61,7 @@ public final class ImagesTest {
     x.seed(9);
     x.check();
     x.tell(5);
-    due.equal("restore()", x.restore(), 5);
-    twin.restore();
-    due.same("behind restore()", x, twin);
+    return x;
   }
 
   private static void restoreLeaves() {

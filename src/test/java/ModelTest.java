@@ -1,8 +1,3 @@
-import java.lang.reflect.Method;
-import java.util.ArrayList;
-import java.util.HashMap;
-import java.util.List;
-import java.util.Map;
 import java.util.Random;
 
 /** Runs of calls by chance (the same ones each time), answered by the class and by PlainModel. */
@@ -13,16 +8,11 @@ public final class ModelTest {
       9999, 10000, 200, 255, 65535};
 
   private final Random random;
-  private final LoanedRound round = new LoanedRound();
-  private final PlainModel model = new PlainModel();
-  private final Map<String, Method> methods = new HashMap<>();
-  private final List<String> calls = new ArrayList<>();
+  private final Pair pair = new Pair();
+  private final LoanedRound round = pair.round;
 
   private ModelTest(int seed) {
     random = new Random(seed);
-    for (Method method : LoanedRound.class.getDeclaredMethods()) {
-      methods.put(method.getName(), method);
-    }
   }
 
   public static void main(String[] args) throws ReflectiveOperationException {
@@ -40,10 +30,10 @@ public final class ModelTest {
     for (int i = 0; i < homes; i++) {
       call("home", random.nextInt(70));
     }
-    while (calls.size() < CALLS) {
+    while (pair.calls() < CALLS) {
       if (!step()) {
         System.out.println("run " + run + ", from its first call on:");
-        calls.forEach(System.out::println);
+        pair.print();
         return false;
       }
     }
@@ -174,25 +164,7 @@ public final class ModelTest {
     }
   }
 
-  /** Whether both answer alike. */
   private boolean call(String name, long... args) throws ReflectiveOperationException {
-    Method method = methods.get(name);
-    Object[] values = new Object[args.length];
-    for (int i = 0; i < args.length; i++) {
-      if (method.getParameterTypes()[i] == long.class) {
-        values[i] = args[i];
-      } else {
-        values[i] = (int) args[i];
-      }
-    }
-    int answer = (Integer) method.invoke(round, values);
-    int due = model.answer(name, args);
-    StringBuilder call = new StringBuilder(name).append('(');
-    for (int i = 0; i < args.length; i++) {
-      call.append(i == 0 ? "" : ", ").append(args[i]);
-    }
-    calls.add(call.append(") ").append(answer).append(answer == due ? "" : ", due is " + due)
-        .toString());
-    return answer == due;
+    return pair.call(name, args);
   }
 }

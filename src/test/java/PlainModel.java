@@ -661,8 +661,9 @@ final class PlainModel {
       World w = world.copy();
       w.at = start;
       boolean fits = true;
-      for (int n = 0; n < views.size(); n++) {
-        fits &= w.on(n).view == views.get(n);
+      for (int view : views) {
+        fits &= w.view == view;
+        w.goesBy();
       }
       set += fits ? 1 << start : 0;
     }

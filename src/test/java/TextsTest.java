@@ -54,12 +54,12 @@ public final class TextsTest {
 
   private static void text() {
     LoanedRound x = new LoanedRound();
-    due.equal("text 0", read(x, 0, "s+v*d"), 1);
+    due.equal("text 0", Scenes.read(x, 0, "s+v*d"), 1);
     due.equal("THE TAPE is empty", x.count(8), 0);
     due.equal("law", x.law(0, 3, 4, 5), 23);
-    due.equal("text 0 in place", read(x, 0, "d-v"), 1);
+    due.equal("text 0 in place", Scenes.read(x, 0, "d-v"), 1);
     due.equal("law", x.law(0, 3, 4, 50), 46);
-    due.equal("text 0 with a FAULT", read(x, 0, "s+l"), -12);
+    due.equal("text 0 with a FAULT", Scenes.read(x, 0, "s+l"), -12);
     due.equal("THE TAPE is empty", x.count(8), 0);
     due.equal("the one ahead stays", x.law(0, 3, 4, 50), 46);
     due.equal("text 1 in between", x.law(1, 150, 4, 50), 50);
@@ -72,77 +72,60 @@ public final class TextsTest {
     due.equal("and can be read", x.text(1), 1);
   }
 
-  private static int read(LoanedRound x, int use, String text) {
-    Scenes.feed(x, text);
-    return x.text(use);
-  }
-
   private static void faults() {
-    fault(0, "", 0);
-    fault(0, "s+", 2);
-    fault(0, "(s", 2);
-    fault(0, "!", 1);
-    fault(0, "s ", 1);
-    fault(0, " s", 0);
-    fault(0, "l", 0);
-    fault(1, "v", 0);
-    fault(1, "l+s+d+v", 6);
-    fault(0, "12345", 4);
-    fault(0, "s5", 1);
-    fault(0, "5s", 1);
-    fault(0, "sv", 1);
-    fault(0, "-1", 0);
-    fault(0, "s--1", 2);
-    fault(0, "s<v<d", 3);
-    fault(0, "s<v=d", 3);
-    fault(0, "(s<v)<(v<d", 10);
-    fault(0, "()", 1);
-    fault(0, "s)", 1);
-    fault(0, "(s))", 3);
-    fault(0, "s||v", 2);
-    fault(0, "s&&v", 2);
-    fault(0, "s|", 2);
-    fault(0, "S", 0);
-    fault(0, "s!", 1);
-    fault(0, "s(v)", 1);
-    fault(0, "(s)v", 3);
-    fault(0, "!|", 1);
-    fault(0, "s<", 2);
-    fault(0, "s>=v", 2);
-    fault(0, "1/*2", 2);
-    fault(0, "s^v", 1);
-  }
-
-  private static void fault(int use, String text, int place) {
-    LoanedRound x = new LoanedRound();
-    due.equal("text of '" + text + "'", read(x, use, text), -10 - place);
-    due.equal("no TEXT of '" + text + "'", x.untell(use), 0);
+    due.fault(0, "", 0);
+    due.fault(0, "s+", 2);
+    due.fault(0, "(s", 2);
+    due.fault(0, "!", 1);
+    due.fault(0, "s ", 1);
+    due.fault(0, " s", 0);
+    due.fault(0, "l", 0);
+    due.fault(1, "v", 0);
+    due.fault(1, "l+s+d+v", 6);
+    due.fault(0, "12345", 4);
+    due.fault(0, "s5", 1);
+    due.fault(0, "5s", 1);
+    due.fault(0, "sv", 1);
+    due.fault(0, "-1", 0);
+    due.fault(0, "s--1", 2);
+    due.fault(0, "s<v<d", 3);
+    due.fault(0, "s<v=d", 3);
+    due.fault(0, "(s<v)<(v<d", 10);
+    due.fault(0, "()", 1);
+    due.fault(0, "s)", 1);
+    due.fault(0, "(s))", 3);
+    due.fault(0, "s||v", 2);
+    due.fault(0, "s&&v", 2);
+    due.fault(0, "s|", 2);
+    due.fault(0, "S", 0);
+    due.fault(0, "s!", 1);
+    due.fault(0, "s(v)", 1);
+    due.fault(0, "(s)v", 3);
+    due.fault(0, "!|", 1);
+    due.fault(0, "s<", 2);
+    due.fault(0, "s>=v", 2);
+    due.fault(0, "1/*2", 2);
+    due.fault(0, "s^v", 1);
   }
 
   private static void mostOpen() {
-    gives(0, "!!!!!s", 7, 0, 0, 0);
-    fault(0, "!!!!!!s", 5);
-    gives(0, "(((((s)))))", 7, 0, 0, 7);
-    fault(0, "((((((s))))))", 5);
-    gives(0, "!(!(!s))", 7, 0, 0, 0);
-    fault(0, "!(!(!(s)))", 5);
-    fault(0, "!!!!!(s)", 5);
-    fault(0, "(((((!s)))))", 5);
-    gives(0, "(((((s)))))+(((((v)))))*!!!!!d", 7, 4, 0, 11);
-    gives(0, "((((!s+!s))))", 0, 0, 0, 2);
-    gives(0, "!s*!s*!s*!s*!s*!s+1", 0, 0, 0, 2);
-  }
-
-  private static void gives(int use, String text, int a, int b, int c, int want) {
-    LoanedRound x = new LoanedRound();
-    due.equal("text of '" + text + "'", read(x, use, text), 1);
-    due.equal("'" + text + "' by " + a + ", " + b + ", " + c, x.law(use, a, b, c), want);
+    due.gives(0, "!!!!!s", 7, 0, 0, 0);
+    due.fault(0, "!!!!!!s", 5);
+    due.gives(0, "(((((s)))))", 7, 0, 0, 7);
+    due.fault(0, "((((((s))))))", 5);
+    due.gives(0, "!(!(!s))", 7, 0, 0, 0);
+    due.fault(0, "!(!(!(s)))", 5);
+    due.fault(0, "!!!!!(s)", 5);
+    due.fault(0, "(((((!s)))))", 5);
+    due.gives(0, "(((((s)))))+(((((v)))))*!!!!!d", 7, 4, 0, 11);
+    due.gives(0, "((((!s+!s))))", 0, 0, 0, 2);
+    due.gives(0, "!s*!s*!s*!s*!s*!s+1", 0, 0, 0, 2);
   }
 
   private static void untell() {
     LoanedRound x = new LoanedRound();
-    read(x, 0, "5");
-    read(x, 1, "6");
+    Scenes.read(x, 0, "5");
+    Scenes.read(x, 1, "6");
     due.equal("untell(1)", x.untell(1), 1);
     due.equal("untell(1) again", x.untell(1), 0);
     due.equal("USE 0 stays", x.law(0, 1, 1, 1), 5);
@@ -168,63 +151,63 @@ public final class TextsTest {
   }
 
   private static void signs() {
-    gives(0, "s|v", 0, 0, 0, 0);
-    gives(0, "s|v", 0, 7, 0, 1);
-    gives(0, "s|v", 5, 7, 0, 1);
-    gives(0, "s|v|d", 0, 0, 3, 1);
-    gives(0, "s&v", 5, 7, 0, 1);
-    gives(0, "s&v", 5, 0, 0, 0);
-    gives(0, "s&v|d", 5, 0, 2, 1);
-    gives(0, "d|s&v", 5, 0, 2, 1);
-    gives(0, "s", 7, 0, 0, 7);
-    gives(0, "s<v", 6, 7, 0, 1);
-    gives(0, "s<v", 7, 7, 0, 0);
-    gives(0, "(s<v)+5", 7, 7, 0, 5);
-    gives(0, "(s>v)+5", 7, 7, 0, 5);
-    gives(0, "(s=v)+5", 7, 8, 0, 5);
-    gives(0, "(s|v)+5", 0, 0, 0, 5);
-    gives(0, "(s&v)+5", 7, 0, 0, 5);
-    gives(0, "(!s)+5", 7, 0, 0, 5);
-    gives(0, "s&v", 1, -1, 0, 1);
-    gives(0, "s&v", -1, 1, 0, 1);
-    gives(0, "s>v", 8, 7, 0, 1);
-    gives(0, "s>v", 7, 7, 0, 0);
-    gives(0, "s=v", 7, 7, 0, 1);
-    gives(0, "s=v", 8, 7, 0, 0);
-    gives(0, "s+1<v*2", 6, 4, 0, 1);
-    gives(0, "s-v-d", 50, 20, 5, 25);
-    gives(0, "s-(v-d)", 50, 20, 5, 35);
-    gives(0, "s/v/d", 90, 3, 5, 6);
-    gives(0, "s/v*d", 95, 10, 4, 36);
-    gives(0, "s*v/d", 7, 5, 2, 17);
-    gives(0, "s%v", 17, 5, 0, 2);
-    gives(0, "s%v+9", -17, 5, 0, 7);
-    gives(0, "s%v+9", 17, -5, 0, 11);
-    gives(0, "s/v+9", -17, 5, 0, 6);
-    gives(0, "s/v+9", 5, 0, 0, 9);
-    gives(0, "s%v+9", 5, 0, 0, 9);
-    gives(0, "!s", 0, 0, 0, 1);
-    gives(0, "!s", -5, 0, 0, 0);
-    gives(0, "!s+v", 0, 7, 0, 8);
-    gives(0, "!(s+v)", 0, 7, 0, 0);
-    gives(0, "s+v*d", 2, 3, 4, 14);
-    gives(0, "(s+v)*d", 2, 3, 4, 20);
-    gives(0, "0099", 2, 3, 4, 99);
-    gives(1, "9999", 2, 3, 4, 99);
-    gives(1, "0000", 2, 3, 4, 0);
-    gives(1, "l-s*d", 2, 30, 4, 82);
-    gives(1, "d", 2, 30, 4, 4);
-    gives(1, "s", 2, 30, 4, 30);
+    due.gives(0, "s|v", 0, 0, 0, 0);
+    due.gives(0, "s|v", 0, 7, 0, 1);
+    due.gives(0, "s|v", 5, 7, 0, 1);
+    due.gives(0, "s|v|d", 0, 0, 3, 1);
+    due.gives(0, "s&v", 5, 7, 0, 1);
+    due.gives(0, "s&v", 5, 0, 0, 0);
+    due.gives(0, "s&v|d", 5, 0, 2, 1);
+    due.gives(0, "d|s&v", 5, 0, 2, 1);
+    due.gives(0, "s", 7, 0, 0, 7);
+    due.gives(0, "s<v", 6, 7, 0, 1);
+    due.gives(0, "s<v", 7, 7, 0, 0);
+    due.gives(0, "(s<v)+5", 7, 7, 0, 5);
+    due.gives(0, "(s>v)+5", 7, 7, 0, 5);
+    due.gives(0, "(s=v)+5", 7, 8, 0, 5);
+    due.gives(0, "(s|v)+5", 0, 0, 0, 5);
+    due.gives(0, "(s&v)+5", 7, 0, 0, 5);
+    due.gives(0, "(!s)+5", 7, 0, 0, 5);
+    due.gives(0, "s&v", 1, -1, 0, 1);
+    due.gives(0, "s&v", -1, 1, 0, 1);
+    due.gives(0, "s>v", 8, 7, 0, 1);
+    due.gives(0, "s>v", 7, 7, 0, 0);
+    due.gives(0, "s=v", 7, 7, 0, 1);
+    due.gives(0, "s=v", 8, 7, 0, 0);
+    due.gives(0, "s+1<v*2", 6, 4, 0, 1);
+    due.gives(0, "s-v-d", 50, 20, 5, 25);
+    due.gives(0, "s-(v-d)", 50, 20, 5, 35);
+    due.gives(0, "s/v/d", 90, 3, 5, 6);
+    due.gives(0, "s/v*d", 95, 10, 4, 36);
+    due.gives(0, "s*v/d", 7, 5, 2, 17);
+    due.gives(0, "s%v", 17, 5, 0, 2);
+    due.gives(0, "s%v+9", -17, 5, 0, 7);
+    due.gives(0, "s%v+9", 17, -5, 0, 11);
+    due.gives(0, "s/v+9", -17, 5, 0, 6);
+    due.gives(0, "s/v+9", 5, 0, 0, 9);
+    due.gives(0, "s%v+9", 5, 0, 0, 9);
+    due.gives(0, "!s", 0, 0, 0, 1);
+    due.gives(0, "!s", -5, 0, 0, 0);
+    due.gives(0, "!s+v", 0, 7, 0, 8);
+    due.gives(0, "!(s+v)", 0, 7, 0, 0);
+    due.gives(0, "s+v*d", 2, 3, 4, 14);
+    due.gives(0, "(s+v)*d", 2, 3, 4, 20);
+    due.gives(0, "0099", 2, 3, 4, 99);
+    due.gives(1, "9999", 2, 3, 4, 99);
+    due.gives(1, "0000", 2, 3, 4, 0);
+    due.gives(1, "l-s*d", 2, 30, 4, 82);
+    due.gives(1, "d", 2, 30, 4, 4);
+    due.gives(1, "s", 2, 30, 4, 30);
   }
 
   private static void wrapping() {
-    gives(1, "l*s", 1103515245, 1103515245, 0, 69);
-    gives(1, "l+1", Integer.MAX_VALUE, 0, 0, 52);
-    gives(1, "l-1", Integer.MIN_VALUE, 0, 0, 47);
-    gives(1, "l/(0-1)", Integer.MIN_VALUE, 0, 0, 52);
-    gives(1, "l%(0-1)", Integer.MIN_VALUE, 0, 0, 0);
-    gives(0, "s*s", 65536, 0, 0, 0);
-    gives(0, "s*s>0", 50000, 0, 0, 0);
+    due.gives(1, "l*s", 1103515245, 1103515245, 0, 69);
+    due.gives(1, "l+1", Integer.MAX_VALUE, 0, 0, 52);
+    due.gives(1, "l-1", Integer.MIN_VALUE, 0, 0, 47);
+    due.gives(1, "l/(0-1)", Integer.MIN_VALUE, 0, 0, 52);
+    due.gives(1, "l%(0-1)", Integer.MIN_VALUE, 0, 0, 0);
+    due.gives(0, "s*s", 65536, 0, 0, 0);
+    due.gives(0, "s*s>0", 50000, 0, 0, 0);
   }
 
   /** VIEW 57, SHARP 43, DAY 13: v is 5, s of BEHIND is 4, d is 5. */
@@ -233,14 +216,14 @@ public final class TextsTest {
     x.set(0, 57);
     x.set(1, 43);
     x.day(13);
-    read(x, 0, "s*100+v*10+d-5700");
+    Scenes.read(x, 0, "s*100+v*10+d-5700");
     due.equal("SAID AT a HOST", x.homeIs(0, 5), 55);
-    read(x, 0, "v");
+    Scenes.read(x, 0, "v");
     x.set(0, 50);
     due.equal("a tenth of 50", x.homeIs(0, 5), 5);
     x.set(0, 59);
     due.equal("a tenth of 59", x.homeIs(0, 5), 5);
-    read(x, 1, "s");
+    Scenes.read(x, 1, "s");
     x.set(1, 40);
     due.equal("a tenth of 40", x.homeIs(0, 6), 4);
     x.set(1, 49);
@@ -248,17 +231,17 @@ public final class TextsTest {
     x.set(0, 57);
     x.set(1, 43);
     x.untell(1);
-    read(x, 0, "s+5");
+    Scenes.read(x, 0, "s+5");
     due.equal("a WAKE tells 0", x.homeIs(6, 5), 5);
-    read(x, 0, "s+100");
+    Scenes.read(x, 0, "s+100");
     due.equal("SAID is held", x.homeIs(0, 5), 99);
-    read(x, 0, "s-100");
+    Scenes.read(x, 0, "s-100");
     due.equal("SAID is held", x.homeIs(0, 5), 0);
-    read(x, 1, "l*0+s*10+d");
+    Scenes.read(x, 1, "l*0+s*10+d");
     due.equal("BEHIND AT a HOST", x.homeIs(0, 6), 45);
-    read(x, 1, "l-100");
+    Scenes.read(x, 1, "l-100");
     due.equal("BEHIND is a rest", x.homeIs(0, 6), 61);
-    read(x, 1, "l+100");
+    Scenes.read(x, 1, "l+100");
     due.equal("BEHIND is a rest", x.homeIs(0, 6), 61);
   }
 }

@@ -58,10 +58,8 @@ public final class ThoughtsTest {
   }
 
   private static void unchanged(String call, ToIntFunction<LoanedRound> act) {
-    LoanedRound x = Scenes.busy();
-    LoanedRound twin = Scenes.busy();
-    due.equal(call + " is no ERROR", act.applyAsInt(x) > -1000000000 ? 1 : 0, 1);
-    due.same("behind " + call, x, twin);
+    due.allowed(call, Scenes::busy, act);
+    due.same("behind " + call, () -> Due.behind(Scenes::busy, act), Scenes::busy);
   }
 
   private static void soonest() {
