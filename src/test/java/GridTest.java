@@ -67,9 +67,11 @@ public final class GridTest {
     pair.call("sheet", 0, 8, 3);
     pair.call("sheet", 1, 16, 24);
     pair.call("sheet", 2, 16, 2);
-    pair.call("put", 1, 0, pair.round.count(3));
+    pair.call("count", 3);
+    pair.call("put", 1, 0, pair.latest());
     pair.call("put", 1, 1, 9999);
-    pair.call("tell", pair.round.homeIs(0, 5));
+    pair.call("homeIs", 0, 5);
+    pair.call("tell", pair.latest());
     pair.call("voice", 1, 3, 7);
   }
 

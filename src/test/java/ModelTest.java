@@ -3,13 +3,12 @@ import java.util.Random;
 /** Runs of calls by chance (the same ones each time), answered by the class and by PlainModel. */
 public final class ModelTest {
   private static final int RUNS = 400;
-  private static final int CALLS = 500;
+  private static final int CALLS = 490;
   private static final int[] ODD = {-1, -1000000001, Integer.MIN_VALUE, Integer.MAX_VALUE, 7, 100,
       9999, 10000, 200, 255, 65535};
 
   private final Random random;
   private final Pair pair = new Pair();
-  private final LoanedRound round = pair.round;
 
   private ModelTest(int seed) {
     random = new Random(seed);
@@ -102,10 +101,11 @@ public final class ModelTest {
   }
 
   private boolean tellSaid() throws ReflectiveOperationException {
-    boolean alike = call("check");
-    int homes = round.count(0);
+    boolean alike = call("check") && call("count", 0);
+    int homes = pair.latest();
     for (int i = 0; i < homes && alike; i++) {
-      alike = call("tell", random.nextInt(12) == 0 ? any(100) : round.homeIs(i, 5));
+      alike = call("homeIs", i, 5);
+      alike &= call("tell", random.nextInt(12) == 0 ? any(100) : pair.latest());
     }
     return alike;
   }
@@ -113,12 +113,13 @@ public final class ModelTest {
   /** A SHEET of the VIEWS that would be, at times from another home on, at times not quite. */
   private boolean tellViews() throws ReflectiveOperationException {
     int n = random.nextInt(6);
-    boolean alike = call("sheet", 1, 16, n);
-    if (round.count(0) > 0) {
-      alike &= call("goes", random.nextInt(round.count(0)));
+    boolean alike = call("sheet", 1, 16, n) && call("count", 0);
+    if (pair.latest() > 0) {
+      alike &= call("goes", random.nextInt(pair.latest()));
     }
     for (int i = 0; i < n && alike; i++) {
-      alike = call("put", 1, i, round.then(i, 0) + (random.nextInt(15) == 0 ? 1 : 0));
+      alike = call("then", i, 0);
+      alike &= call("put", 1, i, pair.latest() + (random.nextInt(15) == 0 ? 1 : 0));
     }
     return alike;
   }

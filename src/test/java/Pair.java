@@ -14,7 +14,7 @@ final class Pair {
     }
   }
 
-  final LoanedRound round = new LoanedRound();
+  private final LoanedRound round = new LoanedRound();
   private final PlainModel model = new PlainModel();
   private final List<String> calls = new ArrayList<>();
   private int latest = 0;
