@@ -1,10 +1,13 @@
-import java.util.ArrayList;
-import java.util.List;
+import java.io.IOException;
+import java.util.Map;
+import java.util.Set;
+import java.util.TreeMap;
+import java.util.TreeSet;
 
 /**
  * Every call with all its numbers at and next to their bounds, each with each, on objects that
  * are empty, full, and in between; answered by the class and by PlainModel, and what both are
- * behind it, too.
+ * behind it, too. So every call comes to each ERROR that it has, which README.md lists.
  */
 public final class GridTest {
   private static final int LEAST = Integer.MIN_VALUE;
@@ -20,6 +23,7 @@ public final class GridTest {
   private static final int[] PLACE = {LEAST, -1, 0, 1, 2, 3, 23, 24, 25, MOST};
 
   private final Scene scene;
+  private final Map<String, Set<Integer>> refusals = new TreeMap<>();
   private int asked = 0;
   private boolean alike = true;
 
@@ -32,18 +36,38 @@ public final class GridTest {
     this.scene = scene;
   }
 
-  public static void main(String[] args) throws ReflectiveOperationException {
+  public static void main(String[] args) throws ReflectiveOperationException, IOException {
     int asked = 0;
+    Map<String, Set<Integer>> refusals = new TreeMap<>();
     Scene[] scenes = {pair -> { }, GridTest::one, GridTest::some, GridTest::full, GridTest::late};
     for (Scene scene : scenes) {
       GridTest grid = new GridTest(scene);
       grid.all();
       asked += grid.asked;
+      grid.refusals.forEach((name, some) ->
+          refusals.computeIfAbsent(name, none -> new TreeSet<>()).addAll(some));
       if (!grid.alike) {
         System.exit(1);
       }
     }
     System.out.println(asked + " calls are answered alike");
+    if (!refusals.equals(listed())) {
+      System.out.println("ERRORS are " + refusals + ", README.md lists " + listed());
+      System.exit(1);
+    }
+  }
+
+  /** The ERRORS of each call as README.md has them, by their numbers below LOW. */
+  private static Map<String, Set<Integer>> listed() throws IOException {
+    Readme readme = Readme.read();
+    Map<String, Integer> numbers = readme.numbersOfErrors();
+    Map<String, Set<Integer>> listed = new TreeMap<>();
+    readme.errorsOfCalls().forEach((name, errors) -> {
+      Set<Integer> some = new TreeSet<>();
+      errors.forEach(error -> some.add(-1000000000 - numbers.getOrDefault(error, 0)));
+      listed.put(name, some);
+    });
+    return listed;
   }
 
   private static void one(Pair pair) throws ReflectiveOperationException {
@@ -189,6 +213,8 @@ public final class GridTest {
       all *= some.length;
     }
     Pair pair = begin();
+    Set<Integer> errors = new TreeSet<>();
+    refusals.put(name, errors);
     for (int i = 0; i < all && alike; i++) {
       long[] args = new long[values.length];
       int rest = i;
@@ -196,7 +222,11 @@ public final class GridTest {
         args[j] = values[j][rest % values[j].length];
         rest /= values[j].length;
       }
-      alike = pair.call(name, args) && (pair.latest() > -1000000000 || isAlike(pair));
+      alike = pair.call(name, args);
+      if (pair.refusal() > 0) {
+        errors.add(pair.refusal());
+      }
+      alike = alike && (pair.latest() > -1000000000 || isAlike(pair));
       asked++;
       if (alike && (pair.latest() > -1000000000 || pair.calls() > 480)) {
         alike = isAlike(pair) && isAlikeInside(pair);

@@ -41,6 +41,11 @@ final class Pair {
     return latest;
   }
 
+  /** Which ERROR that was, by its number below LOW; 0 if it was none. */
+  int refusal() {
+    return model.refusal();
+  }
+
   int calls() {
     return calls.size();
   }

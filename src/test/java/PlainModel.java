@@ -329,6 +329,7 @@ final class PlainModel {
   private final List<List<Integer>> sheets = new ArrayList<>();
   private final int[] bits = new int[4];
   private final int[] told = new int[7];
+  private int refusal = 0;
 
   PlainModel() {
     for (int i = 0; i < 4; i++) {
@@ -346,12 +347,19 @@ final class PlainModel {
 
   /** The act's answer, an ERROR counted. */
   int answer(String act, long[] args) {
+    refusal = 0;
     try {
       return act(act, args);
-    } catch (Refusal refusal) {
-      told[refusal.k]++;
-      return -1000000000 - refusal.k;
+    } catch (Refusal refused) {
+      refusal = refused.k;
+      told[refusal]++;
+      return -1000000000 - refusal;
     }
+  }
+
+  /** Which ERROR the latest answer was, 0 if it was none. */
+  int refusal() {
+    return refusal;
   }
 
   private int act(String act, long[] args) {
