@@ -44,7 +44,7 @@ public final class LoanedRound {
   private final State now = new State();
   private final State kept = new State();
   private final Reader reader = new Reader();
-  private final Thought thought = new Thought(now.round);
+  private final Thought thought = new Thought();
   private final Voices voices = new Voices();
   private final Sheet[] sheets = new Sheet[SHEETS];
   private final int[] errors = new int[PARTED + 1];
@@ -166,7 +166,7 @@ public final class LoanedRound {
     if (fault >= 0) {
       return -10 - fault;
     }
-    now.lawOf(use).takeSteps(reader.steps);
+    now.round.lawOf(use).takeSteps(reader.steps);
     return 1;
   }
 
@@ -174,7 +174,7 @@ public final class LoanedRound {
     if (!isUse(use)) {
       return error(BEYOND);
     }
-    Row steps = now.lawOf(use).steps;
+    Row steps = now.round.lawOf(use).steps;
     int before = steps.size > 0 ? 1 : 0;
     steps.empty();
     return before;
@@ -184,7 +184,7 @@ public final class LoanedRound {
     if (!isUse(use)) {
       return error(BEYOND);
     }
-    return now.lawOf(use).gives(a, b, c);
+    return now.round.lawOf(use).gives(a, b, c);
   }
 
   // ---- days
@@ -235,7 +235,7 @@ public final class LoanedRound {
     if (!isWithin(n, 0, MOST_DAYS) || !isWithin(what, 0, 3)) {
       return error(BEYOND);
     }
-    Round ahead = thought.daysOn(n);
+    Round ahead = thought.daysOn(now.round, n);
     switch (what) {
       case 0: return ahead.view;
       case 1: return ahead.sharp;
@@ -248,7 +248,7 @@ public final class LoanedRound {
     if (!now.round.has(home) || !isWithin(v, 0, MOST_HEARD)) {
       return error(BEYOND);
     }
-    int days = thought.daysUntil(home, v);
+    int days = thought.daysUntil(now.round, home, v);
     return days < 0 ? error(NONE) : days;
   }
 
@@ -256,7 +256,7 @@ public final class LoanedRound {
     if (!now.round.has(home) || !isWithin(n, 0, MOST_DAYS_SOUGHT) || !isWithin(what, 0, 1)) {
       return error(BEYOND);
     }
-    thought.seekStart(home, n);
+    thought.seekStart(now.round, home, n);
     return what == 0 ? thought.which : thought.much;
   }
 
@@ -264,7 +264,7 @@ public final class LoanedRound {
     if (!isWithin(n, 0, MOST_DAYS_SOUGHT) || !isWithin(what, 0, 1)) {
       return error(BEYOND);
     }
-    thought.seekSwap(n);
+    thought.seekSwap(now.round, n);
     if (thought.which < 0) {
       return error(NONE);
     }
@@ -275,7 +275,7 @@ public final class LoanedRound {
     if (!isWithin(n, 0, MOST_DAYS_SOUGHT) || !isWithin(v, 0, MOST_VIEW)) {
       return error(BEYOND);
     }
-    int spared = thought.fewestPast(n, v);
+    int spared = thought.fewestPast(now.round, n, v);
     return spared < 0 ? error(NONE) : spared;
   }
 
@@ -285,7 +285,7 @@ public final class LoanedRound {
       return error(BEYOND);
     }
     int all = MOST_VIEW + 1;
-    int likely = thought.likelyViews(home, v, n);
+    int likely = thought.likelyViews(now.round, home, v, n);
     int shared = greatestShared(likely, all);
     return part == 0 ? likely / shared : all / shared;
   }
@@ -297,7 +297,7 @@ public final class LoanedRound {
     if (sheets[sheet].isMissing()) {
       return error(NONE);
     }
-    int places = thought.placesThatFit(sheets[sheet].numbers);
+    int places = thought.placesThatFit(now.round, sheets[sheet].numbers);
     return what == 0 ? places : Integer.bitCount(places);
   }
 
@@ -534,28 +534,18 @@ public final class LoanedRound {
     }
 
     void takeOver(Row other) {
-      empty();
-      for (int i = 0; i < other.size; i++) {
-        add(other.numbers[i]);
-      }
+      size = Math.min(other.size, numbers.length);
+      System.arraycopy(other.numbers, 0, numbers, 0, size);
     }
   }
 
   /** All that an IMAGE keeps. */
   static final class State {
-    final Law said = new Law(SAID);
-    final Law behind = new Law(BEHIND);
-    final Round round = new Round(said, behind);
+    final Round round = new Round();
     final Row tape = new Row(MOST_BYTES);
     final Row waiting = new Row(MOST_WAITING);
 
-    Law lawOf(int use) {
-      return use == SAID ? said : behind;
-    }
-
     void takeOver(State other) {
-      said.takeSteps(other.said.steps);
-      behind.takeSteps(other.behind.steps);
       round.takeOver(other.round);
       tape.takeOver(other.tape);
       waiting.takeOver(other.waiting);
@@ -722,19 +712,23 @@ public final class LoanedRound {
         steps.add(Law.NAME + nameNext());
         place++;
       } else if (isNext('!') && open < MOST_OPEN) {
-        place++;
-        readQ(open + 1);
-        steps.add(-'!');
+        readNot(open + 1);
       } else if (isNext('(') && open < MOST_OPEN) {
-        place++;
-        readT(open + 1);
-        readClosing();
+        readInner(open + 1);
       } else {
         fail();
       }
     }
 
-    private void readClosing() {
+    private void readNot(int open) {
+      place++;
+      readQ(open);
+      steps.add(-'!');
+    }
+
+    private void readInner(int open) {
+      place++;
+      readT(open);
       if (isNext(')')) {
         place++;
       } else {
@@ -760,10 +754,10 @@ public final class LoanedRound {
     }
   }
 
-  /** HOMES, THE SET and DAY: as they are, or as they are thought to be. */
+  /** HOMES, THE SET, DAY and what the TEXTS say: as they are, or as they are thought to be. */
   static final class Round {
-    final Law said;
-    final Law behind;
+    final Law said = new Law(SAID);
+    final Law behind = new Law(BEHIND);
     final int[] kinds = new int[MOST_HOMES];
     final int[] ms = new int[MOST_HOMES];
     final int[] heard = new int[MOST_HOMES];
@@ -778,13 +772,13 @@ public final class LoanedRound {
     int at = 0;
     int z = 1;
 
-    Round(Law said, Law behind) {
-      this.said = said;
-      this.behind = behind;
+    Law lawOf(int use) {
+      return use == SAID ? said : behind;
     }
 
-    /** The laws are not taken over: a thought goes by the laws that stand. */
     void takeOver(Round other) {
+      said.takeSteps(other.said.steps);
+      behind.takeSteps(other.behind.steps);
       System.arraycopy(other.kinds, 0, kinds, 0, MOST_HOMES);
       System.arraycopy(other.ms, 0, ms, 0, MOST_HOMES);
       System.arraycopy(other.heard, 0, heard, 0, MOST_HOMES);
@@ -940,7 +934,8 @@ public final class LoanedRound {
     /** How many numbers became HEARD, up to the first that can't. */
     int takeHeard(Row numbers) {
       int taken = 0;
-      while (taken < numbers.size && taken < homes && isWithin(numbers.numbers[taken], 0, MOST_HEARD)) {
+      while (taken < numbers.size && taken < homes
+          && isWithin(numbers.numbers[taken], 0, MOST_HEARD)) {
         heard[taken] = numbers.numbers[taken];
         taken++;
       }
@@ -982,25 +977,19 @@ public final class LoanedRound {
 
   /** What would be: everything is tried on another round, so that the true one stays. */
   static final class Thought {
-    private final Round truth;
-    private final Round trial;
+    private final Round trial = new Round();
     /** What the latest search found, and how much that makes; which is below 0 for nothing. */
     int which = -1;
     int much = 0;
 
-    Thought(Round truth) {
-      this.truth = truth;
-      this.trial = new Round(truth.said, truth.behind);
-    }
-
-    Round daysOn(int n) {
+    Round daysOn(Round truth, int n) {
       trial.takeOver(truth);
       trial.passDays(n);
       return trial;
     }
 
     /** Below 0 if it is not so by the last DAY that is asked. */
-    int daysUntil(int home, int v) {
+    int daysUntil(Round truth, int home, int v) {
       trial.takeOver(truth);
       for (int days = 0; days <= MOST_DAYS; days++) {
         if (trial.heard[home] >= v) {
@@ -1011,7 +1000,7 @@ public final class LoanedRound {
       return -1;
     }
 
-    void seekStart(int home, int n) {
+    void seekStart(Round truth, int home, int n) {
       which = -1;
       much = -1;
       for (int start = 0; start < truth.homes; start++) {
@@ -1025,7 +1014,7 @@ public final class LoanedRound {
       }
     }
 
-    void seekSwap(int n) {
+    void seekSwap(Round truth, int n) {
       which = -1;
       trial.takeOver(truth);
       trial.passDays(n);
@@ -1045,12 +1034,12 @@ public final class LoanedRound {
     }
 
     /** The set, or below 0 if there is none; a home that is gone PAST already is never of use. */
-    int fewestPast(int n, int v) {
+    int fewestPast(Round truth, int n, int v) {
       int sets = 1 << truth.homes;
       for (int size = 0; size <= truth.homes; size++) {
         for (int spared = 0; spared < sets; spared++) {
           if (Integer.bitCount(spared) == size && (spared & truth.past) == 0
-              && viewWithout(spared, n) <= v) {
+              && viewWithout(truth, spared, n) <= v) {
             return spared;
           }
         }
@@ -1058,7 +1047,7 @@ public final class LoanedRound {
       return -1;
     }
 
-    private int viewWithout(int spared, int n) {
+    private int viewWithout(Round truth, int spared, int n) {
       trial.takeOver(truth);
       trial.past = truth.past | spared;
       for (int i = 0; i < n; i++) {
@@ -1068,7 +1057,7 @@ public final class LoanedRound {
     }
 
     /** By how many a VIEW of now HEARD of a home is v or more n DAYS on. */
-    int likelyViews(int home, int v, int n) {
+    int likelyViews(Round truth, int home, int v, int n) {
       int likely = 0;
       for (int view = 0; view <= MOST_VIEW; view++) {
         trial.takeOver(truth);
@@ -1081,17 +1070,17 @@ public final class LoanedRound {
       return likely;
     }
 
-    int placesThatFit(Row views) {
+    int placesThatFit(Round truth, Row views) {
       int places = 0;
       for (int place = 0; place < truth.homes; place++) {
-        if (isFitting(place, views)) {
+        if (isFitting(truth, place, views)) {
           places |= 1 << place;
         }
       }
       return places;
     }
 
-    private boolean isFitting(int place, Row views) {
+    private boolean isFitting(Round truth, int place, Row views) {
       trial.takeOver(truth);
       trial.at = place;
       for (int i = 0; i < views.size; i++) {
@@ -1147,9 +1136,12 @@ public final class LoanedRound {
       }
       int owner = ownerOf(voice, from);
       int body = BODIES[VOICES * owner + voice];
-      int above = ABOVE[owner];
-      int deeper = depth + 1;
       trace.add(body);
+      return workOut(body, ABOVE[owner], x, depth + 1);
+    }
+
+    /** What a BODY gives; above is the KIND above its own. */
+    private int workOut(int body, int above, int x, int deeper) {
       switch (body) {
         case 10: return x + k;
         case 11: return speak(CUTS, kind, x, deeper) * 2;

@@ -76,8 +76,18 @@ public final class FaceTest {
       holds(type + " is static", Modifier.isStatic(type.getModifiers()));
       holds(type + " is not public", !Modifier.isPublic(type.getModifiers()));
       fields(type);
+      constructorsTakeNumbers(type);
     }
     fields(LoanedRound.class);
+  }
+
+  /** So no constructor can hand out anything of the object that it makes to another one. */
+  private static void constructorsTakeNumbers(Class<?> type) {
+    for (Constructor<?> constructor : type.getDeclaredConstructors()) {
+      for (Class<?> taken : constructor.getParameterTypes()) {
+        holds(constructor + " takes numbers alone", taken.isPrimitive());
+      }
+    }
   }
 
   private static void fields(Class<?> type) {
@@ -107,13 +117,13 @@ public final class FaceTest {
     holds("no lambda", !code.contains("->"));
     holds("no method reference", !code.contains("::"));
     holds("signs 1 to 127", text.chars().allMatch(sign -> sign > 0 && sign < 128));
-    methodsAreShort(text.split("\n"));
+    methods(code.split("\n"));
   }
 
   /** A method is what begins and ends in a line with the same two or four blanks. */
-  private static void methodsAreShort(String[] lines) {
+  private static void methods(String[] lines) {
     for (int i = 0; i < lines.length; i++) {
-      if (!lines[i].matches(" {2,4}\\S.*\\) \\{")) {
+      if (!lines[i].matches(" {2,4}(?!(for|if|while|switch) )\\S.*\\) \\{")) {
         continue;
       }
       int blanks = lines[i].length() - lines[i].stripLeading().length();
@@ -122,7 +132,14 @@ public final class FaceTest {
         end++;
       }
       holds("short: " + lines[i].strip(), end - i < 60);
+      callsItselfOnlyIfStatic(lines[i], Arrays.copyOfRange(lines, i + 1, end));
     }
+  }
+
+  private static void callsItselfOnlyIfStatic(String head, String[] body) {
+    String name = head.replaceAll("\\(.*", "").replaceAll(".*\\s", "");
+    boolean callsItself = String.join("\n", body).matches("(?s).*(?<![\\w.])" + name + "\\(.*");
+    holds("recursion of " + head.strip(), !callsItself || head.contains("private static"));
   }
 
   private static void holds(String what, boolean so) {
